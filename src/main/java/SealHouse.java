@@ -57,6 +57,7 @@ public final class SealHouse {
     private final Whole result;
     private final Whole lessP;
     private final Whole lessQ;
+    private final Whole common;
 
     public SealHouse() {
         slots = new Row[SLOT_COUNT];
@@ -77,6 +78,7 @@ public final class SealHouse {
         result = new Whole();
         lessP = new Whole();
         lessQ = new Whole();
+        common = new Whole();
     }
 
     public int feed(int a, int b, int c, int d, int e) {
@@ -317,7 +319,7 @@ public final class SealHouse {
             return LONG_MESSAGE;
         }
         if (fillingRow.length != told.length - 3 - messageRow.length
-                || fillingRow.runLength(0, 0) != fillingRow.length) {
+                || fillingRow.othersFrom(0) < fillingRow.length) {
             return BAD_FILLING;
         }
         padder.fillIn(answer, messageRow, fillingRow);
@@ -415,7 +417,7 @@ public final class SealHouse {
     }
 
     private Key keyAt(int key) {
-        if (key < 0 || key >= ringed || key >= KEY_COUNT) {
+        if (key < 0 || key >= KEY_COUNT || ring[key] == null) {
             throw new IndexOutOfBoundsException("there is no such key");
         }
         return ring[key];
@@ -495,13 +497,9 @@ public final class SealHouse {
         return e.isOdd() && !e.isSmall(1) && e.order(n) < 0;
     }
 
-    private boolean isKeyPrime(Whole number) {
-        return !number.isSmall(2) && desk.isProbable(number);
-    }
-
     private boolean haveCommonDivisor(Whole a, Whole b) {
-        desk.findDivisor(a, b, lessP);
-        return !lessP.isSmall(1);
+        desk.findDivisor(a, b, common);
+        return !common.isSmall(1);
     }
 
     /** Looks at first and second as the primes of a key and leaves n in result: 0, or the refusal. */
@@ -509,7 +507,7 @@ public final class SealHouse {
         if (!desk.multiply(first, second, result) || !isModulusLength(result.byteLength())) {
             return BAD_MODULUS;
         }
-        if (!isKeyPrime(first) || !isKeyPrime(second)) {
+        if (first.isSmall(2) || second.isSmall(2) || !desk.isProbable(first) || !desk.isProbable(second)) {
             return NOT_PROBABLE;
         }
         return haveCommonDivisor(first, second) ? COMMON_DIVISOR : 0;
@@ -520,21 +518,16 @@ public final class SealHouse {
         if (!isExponent(third, result)) {
             return BAD_EXPONENT;
         }
-        lessQ.setLess(first);
-        if (haveCommonDivisor(third, lessQ)) {
-            return NO_LOWERING;
-        }
+        lessP.setLess(first);
         lessQ.setLess(second);
-        return haveCommonDivisor(third, lessQ) ? NO_LOWERING : 0;
+        return haveCommonDivisor(third, lessP) || haveCommonDivisor(third, lessQ) ? NO_LOWERING : 0;
     }
 
-    /** The key of first, second and third, with their product in result. */
+    /** The key of first, second and third: n is in result, and what is one less than p and q stands ready. */
     private Key wholeKey() {
         Key made = new Key(Key.ALL_PARTS, result, third);
         made.at(Key.P).set(first);
         made.at(Key.Q).set(second);
-        lessP.setLess(first);
-        lessQ.setLess(second);
         desk.findMultiple(lessP, lessQ, result);
         desk.invert(third, result, made.at(Key.D));
         desk.divide(made.at(Key.D), lessP, made.at(Key.DP));
@@ -590,11 +583,11 @@ public final class SealHouse {
         }
 
         int at(int k) {
-            return has(k) ? bytes[k] & 255 : 0;
+            return k >= 0 && k < length ? bytes[k] & 255 : 0;
         }
 
         void put(int k, int value) {
-            if (has(k)) {
+            if (k >= 0 && k < length) {
                 bytes[k] = (byte) value;
             }
         }
@@ -657,10 +650,10 @@ public final class SealHouse {
             return true;
         }
 
-        /** How many bytes from a place on come before the first that has this value, or the end. */
-        int runLength(int from, int stop) {
+        /** How many bytes from a place on come before the first 0, or the end. */
+        int othersFrom(int from) {
             for (int k = from; k < length; k++) {
-                if (at(k) == stop) {
+                if (at(k) == 0) {
                     return k - from;
                 }
             }
@@ -1006,7 +999,6 @@ public final class SealHouse {
                 return;
             }
             number.limbs[number.used] = 0;
-            number.used++;
             for (int k = top; k >= 0; k--) {
                 long digit = guessDigit(number, k);
                 if (digit != 0 && takeAway(number, digit, k)) {
@@ -1021,19 +1013,22 @@ public final class SealHouse {
 
         /** The digit of the quotient that is due at a place, or one more. */
         private long guessDigit(Whole number, int place) {
-            int above = place + divisor.used;
-            long high = divisor.limbAt(divisor.used - 1);
-            long low = divisor.limbAt(divisor.used - 2);
-            if (high == 0) {
+            int count = divisor.used;
+            int above = place + count;
+            long[] from = number.limbs;
+            long[] by = divisor.limbs;
+            if (count < 1 || place < 0 || above >= from.length || by[count - 1] == 0) {
                 return 0;
             }
-            long pair = number.limbAt(above) << Whole.LIMB_BITS | number.limbAt(above - 1);
+            long high = by[count - 1];
+            long low = count > 1 ? by[count - 2] : 0;
+            long pair = from[above] << Whole.LIMB_BITS | from[above - 1];
             long digit = pair / high;
             if (digit > Whole.LIMB_MASK) {
                 digit = Whole.LIMB_MASK;
             }
             long left = pair - digit * high;
-            long under = divisor.used > 1 ? number.limbAt(above - 2) : 0;
+            long under = count > 1 ? from[above - 2] : 0;
             // With a full highest limb the guess is at most two too high.
             for (int k = 0; k < 2 && left <= Whole.LIMB_MASK; k++) {
                 if (digit * low <= (left << Whole.LIMB_BITS | under)) {
@@ -1265,14 +1260,15 @@ public final class SealHouse {
 
         void setMask(int hash, Row from, int n, Row to) {
             int h = lengthOf(hash);
+            int number = 0;
             to.length = 0;
-            for (int k = 0; k * h < n; k++) {
+            for (int done = 0; done < n; done += h) {
                 counted.take(from);
-                counted.addWord(k);
+                counted.addWord(number);
+                number++;
                 piece.length = 0;
                 addDigest(hash, counted, piece);
-                int due = n - k * h;
-                to.addPart(piece, 0, due < h ? due : h);
+                to.addPart(piece, 0, n - done < h ? n - done : h);
             }
         }
 
@@ -1444,7 +1440,7 @@ public final class SealHouse {
         }
 
         boolean emptyFrom(Row from, Row message) {
-            int filled = from.runLength(2, 0);
+            int filled = from.othersFrom(2);
             int end = 2 + filled;
             if (from.at(0) != 0 || from.at(1) != 2 || filled < LEAST_FILLING || !from.has(end)) {
                 return false;
