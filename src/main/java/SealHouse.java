@@ -699,8 +699,9 @@ public final class SealHouse {
             return used > 0 && (limbs[0] & 1) == 1;
         }
 
+        /** Whether this is a told value above 0 and of less than a limb. */
         boolean isSmall(int value) {
-            return value == 0 ? used == 0 : used == 1 && limbs[0] == value;
+            return used == 1 && limbs[0] == value;
         }
 
         long limbAt(int k) {
@@ -909,7 +910,7 @@ public final class SealHouse {
                 carry = moved >> LIMB_BITS;
             }
             limbs[count] = carry;
-            trim(count + 1);
+            used = carry == 0 ? count : count + 1;
         }
 
         void shiftDown(Whole a, int by) {

@@ -6,6 +6,14 @@ final class NumbersTest {
     private static final Check CHECK = new Check();
     private static final BigInteger ONE = BigInteger.ONE;
     private static final BigInteger TOP = BigInteger.TWO.pow(2048).subtract(ONE);
+    private static final int[] BASES = {2, 3, 5, 7, 11, 13, 17, 19, 23, 29, 31, 37};
+    /** For each base a product of two primes that deceives the eleven others. */
+    private static final String[] FOUND_OUT = {
+        "468453052746064772997484083211", "1543491012230477229536612193061", "228748124381101622772418261",
+        "1114454675226592290813258131101", "246682147927543807085208345061", "75543753036453855097759902181",
+        "4883970714550734308552713981", "2489449777323243026676729422941", "273032387851627963191617888221",
+        "820454262515712553526953953661", "301735183654082855105413422301", "772499352399295928468469911821"
+    };
 
     public static void main(String[] args) {
         calcSmall();
@@ -19,6 +27,7 @@ final class NumbersTest {
         compare();
         bits();
         probable();
+        allBases();
         next();
         nextFar();
         CHECK.end();
@@ -281,7 +290,13 @@ final class NumbersTest {
         CHECK.holds("12: 2^31 - 1", isProbable(big(2147483647)));
         CHECK.holds("12: 2^127 - 1", isProbable(BigInteger.TWO.pow(127).subtract(ONE)));
         CHECK.holds("12: 2^128 + 1", !isProbable(BigInteger.TWO.pow(128).add(ONE)));
-        CHECK.holds("12: a prime with 96 twos below", isProbable(twosPrime(96)));
+        for (int twos = 1; twos < 200; twos += 9) {
+            BigInteger shorter = twosPrime(ONE, twos);
+            BigInteger longer = twosPrime(edgy(new Random(twos), 280).setBit(0), twos);
+            CHECK.holds("12: a prime with " + twos + " twos below", isProbable(shorter));
+            CHECK.holds("12: a longer one with " + twos + " twos below", isProbable(longer));
+            CHECK.holds("12: no prime, with " + twos + " twos below", !isProbable(shorter.multiply(shorter)));
+        }
         BigInteger last = BigInteger.TWO.pow(512).subtract(big(569));
         CHECK.holds("12: the last prime of 64 bytes", isProbable(last));
         CHECK.holds("12: the first prime of 65 bytes", !isProbable(BigInteger.TWO.pow(512).add(big(75))));
@@ -296,13 +311,36 @@ final class NumbersTest {
         CHECK.dueIndex("12: slot 24", () -> h.seal.probable(24) ? 1 : 0);
     }
 
-    private static BigInteger twosPrime(int twos) {
-        for (long k = 1; ; k += 2) {
-            BigInteger number = big(k).shiftLeft(twos).add(ONE);
-            if (number.isProbablePrime(60)) {
-                return number;
+    private static void allBases() {
+        for (int k = 0; k < BASES.length; k++) {
+            BigInteger number = big(FOUND_OUT[k]);
+            for (int base : BASES) {
+                boolean deceived = base != BASES[k];
+                CHECK.holds("the test's own number " + number, isDeceived(number, base) == deceived);
             }
+            CHECK.holds("12: found out by " + BASES[k] + " alone", !isProbable(number));
         }
+    }
+
+    private static boolean isDeceived(BigInteger number, int base) {
+        BigInteger less = number.subtract(ONE);
+        int twos = less.getLowestSetBit();
+        BigInteger left = big(base).modPow(less.shiftRight(twos), number);
+        boolean deceived = left.equals(ONE);
+        for (int k = 0; k < twos; k++) {
+            deceived |= left.equals(less);
+            left = left.multiply(left).mod(number);
+        }
+        return deceived;
+    }
+
+    /** A prime that is 1 more than a number with just so many twos, and an odd part from this one on. */
+    private static BigInteger twosPrime(BigInteger odd, int twos) {
+        BigInteger part = odd;
+        while (!part.shiftLeft(twos).add(ONE).isProbablePrime(60)) {
+            part = part.add(BigInteger.TWO);
+        }
+        return part.shiftLeft(twos).add(ONE);
     }
 
     private static void dueNext(BigInteger from, BigInteger want) {
