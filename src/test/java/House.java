@@ -9,7 +9,7 @@ final class House {
     final SealHouse seal = new SealHouse();
     private int used = 0;
 
-    /** Tests that call the class themselves still count here what goes through this helper. */
+    /** Only what goes through this helper is counted; the calls that a test makes itself are few. */
     private void count(int calls) {
         used += calls;
         if (used > 512) {
