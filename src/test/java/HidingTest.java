@@ -1,7 +1,6 @@
 import java.math.BigInteger;
 import java.security.GeneralSecurityException;
 import java.util.Arrays;
-import java.util.Random;
 
 /** Promises 20 to 23: hide, show, fill, empty. */
 final class HidingTest {
@@ -34,51 +33,21 @@ final class HidingTest {
         CHECK.end();
     }
 
-    private static byte[] random(long seed, int count) {
-        byte[] row = new byte[count];
-        new Random(seed).nextBytes(row);
-        return row;
-    }
-
-    private static byte[] fillingOf(long seed, int count) {
-        byte[] row = random(seed, count);
-        for (int k = 0; k < count; k++) {
-            row[k] = row[k] == 0 ? 1 : row[k];
-        }
-        return row;
-    }
-
-    private static int length(int hash) {
-        return hash == 0 ? 32 : 28;
-    }
-
-    private static byte[] padded(int hash, int k, byte[] message, byte[] label, byte[] seed) {
-        int h = length(hash);
-        byte[] middle = new byte[k - 2 * h - 2 - message.length];
-        return masked(hash, 0, Model.join(Model.digest(hash, label), middle, House.bytes(1), message), seed);
-    }
-
-    /** The row that is raised, from its highest byte and the data block before it is masked. */
-    private static byte[] masked(int hash, int highest, byte[] data, byte[] seed) {
-        byte[] v = Model.xor(data, Model.mask(hash, seed, data.length));
-        return Model.join(House.bytes(highest), Model.xor(seed, Model.mask(hash, v, seed.length)), v);
-    }
-
     private static void hideAndShow(int hash, int bits) throws GeneralSecurityException {
         Keys key = new Keys(bits, 65537, bits);
         Jdk jdk = new Jdk(key);
         int k = key.length();
-        int most = k - 2 * length(hash) - 2;
+        int most = k - 2 * Pads.length(hash) - 2;
         for (int count = 0; count <= most; count += count < 2 || count >= most - 2 ? 1 : most - count - 1) {
-            byte[] message = random(count, count);
-            byte[] label = random(count + 1, count % 3 * 7);
-            byte[] seed = random(count + 2, length(hash));
+            byte[] message = Pads.random(count, count);
+            byte[] label = Pads.random(count + 1, count % 3 * 7);
+            byte[] seed = Pads.random(count + 2, Pads.length(hash));
             House h = new House().put(M, message).put(LABEL, label).put(SEED, seed).put(OUT, 1);
             key.whole(h);
             key.open(h);
             String name = hash + ", " + bits + " bits, " + count + " bytes";
             CHECK.due("20: K, " + name, k, h.seal.hide(1, hash, M, LABEL, SEED, OUT));
-            byte[] hidden = key.raised(padded(hash, k, message, label, seed));
+            byte[] hidden = key.raised(Pads.hidden(hash, k, message, label, seed));
             CHECK.holds("20: hidden, " + name, h.has(OUT, hidden));
             CHECK.holds("20: shown by another, " + name, Arrays.equals(message, jdk.show(hash, label, hidden)));
             CHECK.due("21: length, " + name, count, h.seal.show(0, hash, OUT, LABEL, OUT));
@@ -90,25 +59,25 @@ final class HidingTest {
     }
 
     private static void hideEdges(int hash) {
-        int least = 2 * length(hash) + 2;
+        int least = 2 * Pads.length(hash) + 2;
         for (int k = least - 1; k <= least + 1; k++) {
             Keys key = new Keys(8 * k, 3, k);
-            House h = new House().put(SEED, random(k, length(hash))).put(KEPT, 6).put(OUT, 7, 7);
+            House h = new House().put(SEED, Pads.random(k, Pads.length(hash))).put(KEPT, 6).put(OUT, 7, 7);
             key.whole(h);
             for (int count = 0; count < 3; count++) {
-                h.put(M, random(count, count));
+                h.put(M, Pads.random(count, count));
                 boolean fits = count <= k - least;
                 CHECK.due("20: " + count + " in " + k, fits ? k : -3, h.seal.hide(0, hash, M, LABEL, SEED, KEPT));
                 if (fits) {
                     CHECK.due("21: " + count + " in " + k, count, h.seal.show(0, hash, KEPT, LABEL, BACK));
-                    CHECK.holds("21: " + count + " in " + k, h.has(BACK, random(count, count)));
+                    CHECK.holds("21: " + count + " in " + k, h.has(BACK, Pads.random(count, count)));
                     h.put(KEPT, 6);
                 } else {
                     CHECK.holds("20: -3 changes nothing", h.has(KEPT, House.bytes(6)));
                 }
             }
             h.put(M, new byte[0]);
-            for (int count : new int[] {0, length(hash) - 1, length(hash) + 1, 256}) {
+            for (int count : new int[] {0, Pads.length(hash) - 1, Pads.length(hash) + 1, 256}) {
                 h.put(SEED, new byte[count]);
                 int want = k < least ? -3 : -4;
                 CHECK.due("20: a seed of " + count, want, h.seal.hide(0, hash, M, LABEL, SEED, OUT));
@@ -125,32 +94,32 @@ final class HidingTest {
         int bits = 600;
         Keys key = new Keys(bits, 17, 21);
         int k = key.length();
-        int h = length(hash);
-        byte[] label = random(4, 9);
-        byte[] seed = random(5, h);
+        int h = Pads.length(hash);
+        byte[] label = Pads.random(4, 9);
+        byte[] seed = Pads.random(5, h);
         byte[] proof = Model.digest(hash, label);
         int behind = k - 2 * h - 1;
         byte[] one = new byte[behind];
         one[behind - 1] = 1;
-        dueShown(key, hash, 0, "a 1 at the very end", masked(hash, 0, Model.join(proof, one), seed));
-        dueShown(key, hash, -5, "a highest byte", masked(hash, 1, Model.join(proof, one), seed));
-        dueShown(key, hash, -5, "no 1", masked(hash, 0, Model.join(proof, new byte[behind]), seed));
+        dueShown(key, hash, 0, "a 1 at the very end", Pads.masked(hash, 0, Model.join(proof, one), seed));
+        dueShown(key, hash, -5, "a highest byte", Pads.masked(hash, 1, Model.join(proof, one), seed));
+        dueShown(key, hash, -5, "no 1", Pads.masked(hash, 0, Model.join(proof, new byte[behind]), seed));
         one[behind - 1] = 2;
-        dueShown(key, hash, -5, "a 2 at the end", masked(hash, 0, Model.join(proof, one), seed));
+        dueShown(key, hash, -5, "a 2 at the end", Pads.masked(hash, 0, Model.join(proof, one), seed));
         one[0] = 1;
-        dueShown(key, hash, behind - 1, "a 1 at once", masked(hash, 0, Model.join(proof, one), seed));
+        dueShown(key, hash, behind - 1, "a 1 at once", Pads.masked(hash, 0, Model.join(proof, one), seed));
         one[0] = (byte) 129;
-        dueShown(key, hash, -5, "a 129", masked(hash, 0, Model.join(proof, one), seed));
+        dueShown(key, hash, -5, "a 129", Pads.masked(hash, 0, Model.join(proof, one), seed));
         one[0] = (byte) 255;
         one[1] = 1;
-        dueShown(key, hash, -5, "a 255 before the 1", masked(hash, 0, Model.join(proof, one), seed));
+        dueShown(key, hash, -5, "a 255 before the 1", Pads.masked(hash, 0, Model.join(proof, one), seed));
         one[0] = 1;
         for (int place : new int[] {0, 1, h / 2, h - 1}) {
             byte[] bad = proof.clone();
             bad[place] ^= 4;
-            dueShown(key, hash, -5, "digest byte " + place, masked(hash, 0, Model.join(bad, one), seed));
+            dueShown(key, hash, -5, "digest byte " + place, Pads.masked(hash, 0, Model.join(bad, one), seed));
         }
-        byte[] good = key.raised(masked(hash, 0, Model.join(proof, one), seed));
+        byte[] good = key.raised(Pads.masked(hash, 0, Model.join(proof, one), seed));
         House x = new House().put(LABEL, label).put(OUT, good).put(KEPT, 8, 8);
         key.whole(x);
         CHECK.due("21: as it is", behind - 1, x.seal.show(0, hash, OUT, LABEL, BACK));
@@ -174,7 +143,7 @@ final class HidingTest {
     }
 
     private static void dueShown(Keys key, int hash, int want, String what, byte[] block) {
-        House x = new House().put(LABEL, random(4, 9)).put(OUT, key.raised(block)).put(KEPT, 8, 8);
+        House x = new House().put(LABEL, Pads.random(4, 9)).put(OUT, key.raised(block)).put(KEPT, 8, 8);
         key.whole(x);
         CHECK.due("21: " + what, want, x.seal.show(0, hash, OUT, LABEL, KEPT));
         CHECK.due("21: the slot, " + what, want < 0 ? 2 : want, x.seal.size(KEPT));
@@ -187,7 +156,7 @@ final class HidingTest {
         do {
             bent[0]++;
             bent[1] += bent[0] == 0 ? 1 : 0;
-            found = key.raised(padded(hash, key.length(), House.bytes(1, 2, 3), label, bent));
+            found = key.raised(Pads.hidden(hash, key.length(), House.bytes(1, 2, 3), label, bent));
         } while (found[0] != 0);
         House x = new House().put(LABEL, label).put(OUT, found);
         key.whole(x);
@@ -233,11 +202,11 @@ final class HidingTest {
 
     private static void hideOntoItself() {
         Keys key = new Keys(1024, 65537, 20);
-        byte[] row = random(20, 32);
+        byte[] row = Pads.random(20, 32);
         House h = new House().put(M, row);
         key.whole(h);
         CHECK.due("20: all slots one", 128, h.seal.hide(0, 0, M, M, M, M));
-        CHECK.holds("20: all slots one", h.has(M, key.raised(padded(0, 128, row, row, row))));
+        CHECK.holds("20: all slots one", h.has(M, key.raised(Pads.hidden(0, 128, row, row, row))));
         h.put(LABEL, row);
         CHECK.due("21: onto its label", 32, h.seal.show(0, 0, M, LABEL, LABEL));
         CHECK.holds("21: onto its label", h.has(LABEL, row));
@@ -248,8 +217,8 @@ final class HidingTest {
         Jdk jdk = new Jdk(key);
         int k = key.length();
         for (int count : new int[] {0, 1, 20, k - 12, k - 11}) {
-            byte[] message = random(count, count);
-            byte[] filling = fillingOf(bits, k - 3 - count);
+            byte[] message = Pads.random(count, count);
+            byte[] filling = Pads.filling(bits, k - 3 - count);
             House h = new House().put(M, message).put(SEED, filling);
             key.whole(h);
             key.open(h);
@@ -272,7 +241,7 @@ final class HidingTest {
             House h = new House().put(KEPT, 6, 6);
             key.whole(h);
             for (int count = 0; count < 3; count++) {
-                h.put(M, random(count, count)).put(SEED, fillingOf(k, k - 3 - count));
+                h.put(M, Pads.random(count, count)).put(SEED, Pads.filling(k, k - 3 - count));
                 boolean fits = count <= k - 11;
                 CHECK.due("22: " + count + " in " + k, fits ? k : -3, h.seal.fill(0, M, SEED, OUT));
                 CHECK.due("23: " + count + " in " + k, fits ? count : -5, h.seal.empty(0, OUT, fits ? BACK : KEPT));
@@ -286,11 +255,11 @@ final class HidingTest {
         House h = new House().put(M, 1, 2, 3).put(KEPT, 6);
         key.whole(h);
         for (int count : new int[] {0, 13, 15, 256}) {
-            h.put(SEED, fillingOf(3, count));
+            h.put(SEED, Pads.filling(3, count));
             CHECK.due("22: a filling of " + count, -4, h.seal.fill(0, M, SEED, KEPT));
         }
         for (int place : new int[] {0, 6, 13}) {
-            byte[] filling = fillingOf(3, 14);
+            byte[] filling = Pads.filling(3, 14);
             filling[place] = 0;
             h.put(SEED, filling);
             CHECK.due("22: a 0 in the filling", -4, h.seal.fill(0, M, SEED, KEPT));
@@ -298,13 +267,13 @@ final class HidingTest {
         h.put(M, new byte[256]);
         CHECK.due("22: -3 before -4", -3, h.seal.fill(0, M, SEED, KEPT));
         CHECK.holds("22: nothing changed", h.has(KEPT, House.bytes(6)));
-        h.put(M, 1, 2, 3).put(SEED, fillingOf(3, 14));
+        h.put(M, 1, 2, 3).put(SEED, Pads.filling(3, 14));
         CHECK.due("22: the right filling", 20, h.seal.fill(0, M, SEED, KEPT));
         Keys longer = new Keys(224, 3, 5);
-        byte[] row = fillingOf(9, 12);
+        byte[] row = Pads.filling(9, 12);
         h = new House().put(M, row);
         longer.whole(h);
-        h.put(SEED, fillingOf(9, 13));
+        h.put(SEED, Pads.filling(9, 13));
         CHECK.due("22: onto the message", 28, h.seal.fill(0, M, SEED, M));
         CHECK.due("23: from the message", 12, h.seal.empty(0, M, M));
         CHECK.holds("23: from the message", h.has(M, row));
@@ -312,18 +281,18 @@ final class HidingTest {
 
     private static void emptyRefused() {
         Keys key = new Keys(160, 17, 23);
-        byte[] eight = fillingOf(8, 8);
-        byte[] rest = Model.join(House.bytes(0), fillingOf(1, 9));
+        byte[] eight = Pads.filling(8, 8);
+        byte[] rest = Model.join(House.bytes(0), Pads.filling(1, 9));
         dueEmptied(key, 9, "eight bytes of filling", Model.join(House.bytes(0, 2), eight, rest));
         dueEmptied(key, -5, "seven bytes", Model.join(House.bytes(0, 2), Arrays.copyOf(eight, 7), House.bytes(0), rest));
         dueEmptied(key, -5, "no filling", Model.join(House.bytes(0, 2), rest, new byte[8]));
         dueEmptied(key, -5, "a 1 for the 2", Model.join(House.bytes(0, 1), eight, rest));
         dueEmptied(key, -5, "a 0 for the 2", Model.join(House.bytes(0, 0), eight, rest));
         dueEmptied(key, -5, "a 1 ahead", Model.join(House.bytes(1, 2), eight, rest));
-        dueEmptied(key, -5, "no 0 behind", Model.join(House.bytes(0, 2), fillingOf(8, 18)));
-        dueEmptied(key, 0, "the 0 at the end", Model.join(House.bytes(0, 2), fillingOf(8, 17), House.bytes(0)));
+        dueEmptied(key, -5, "no 0 behind", Model.join(House.bytes(0, 2), Pads.filling(8, 18)));
+        dueEmptied(key, 0, "the 0 at the end", Model.join(House.bytes(0, 2), Pads.filling(8, 17), House.bytes(0)));
         dueEmptied(key, 8, "a message that begins with 0",
-                Model.join(House.bytes(0, 2), fillingOf(8, 9), new byte[2], fillingOf(2, 7)));
+                Model.join(House.bytes(0, 2), Pads.filling(8, 9), new byte[2], Pads.filling(2, 7)));
         byte[] good = key.raised(Model.join(House.bytes(0, 2), eight, rest));
         House h = new House().put(KEPT, 8).put(OUT, Model.join(House.bytes(0), good));
         key.whole(h);

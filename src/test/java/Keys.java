@@ -28,6 +28,13 @@ final class Keys {
         d = e.modInverse(Model.lcm(p.subtract(one), q.subtract(one)));
     }
 
+    /** What part answers, from n to qi. */
+    BigInteger[] parts() {
+        BigInteger lessP = p.subtract(BigInteger.ONE);
+        BigInteger lessQ = q.subtract(BigInteger.ONE);
+        return new BigInteger[] {n, e, d, p, q, d.mod(lessP), d.mod(lessQ), q.modInverse(p)};
+    }
+
     int length() {
         return (n.bitLength() + 7) / 8;
     }

@@ -157,10 +157,7 @@ final class KeysTest {
             Keys key = new Keys(bits, bits % 2 == 0 ? 65537 : 257, bits);
             House h = new House();
             CHECK.due("16: of " + bits + " bits", 0, key.whole(h));
-            BigInteger lessP = key.p.subtract(ONE);
-            BigInteger lessQ = key.q.subtract(ONE);
-            BigInteger[] want = {key.n, key.e, key.d, key.p, key.q, key.d.mod(lessP), key.d.mod(lessQ),
-                key.q.modInverse(key.p)};
+            BigInteger[] want = key.parts();
             for (int what = 0; what < 8; what++) {
                 CHECK.due("18: length", House.fewest(want[what]).length, h.seal.part(0, what, 4));
                 CHECK.holds("18: part " + what + " of " + bits + " bits", h.has(4, want[what]));

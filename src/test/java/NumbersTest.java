@@ -6,9 +6,9 @@ final class NumbersTest {
     private static final Check CHECK = new Check();
     private static final BigInteger ONE = BigInteger.ONE;
     private static final BigInteger TOP = BigInteger.TWO.pow(2048).subtract(ONE);
-    private static final int[] BASES = {2, 3, 5, 7, 11, 13, 17, 19, 23, 29, 31, 37};
+    static final int[] BASES = {2, 3, 5, 7, 11, 13, 17, 19, 23, 29, 31, 37};
     /** For each base a product of two primes that deceives the eleven others. */
-    private static final String[] FOUND_OUT = {
+    static final String[] FOUND_OUT = {
         "468453052746064772997484083211", "1543491012230477229536612193061", "228748124381101622772418261",
         "1114454675226592290813258131101", "246682147927543807085208345061", "75543753036453855097759902181",
         "4883970714550734308552713981", "2489449777323243026676729422941", "273032387851627963191617888221",
@@ -316,22 +316,10 @@ final class NumbersTest {
             BigInteger number = big(FOUND_OUT[k]);
             for (int base : BASES) {
                 boolean deceived = base != BASES[k];
-                CHECK.holds("the test's own number " + number, isDeceived(number, base) == deceived);
+                CHECK.holds("the test's own number " + number, new Powers(number, base).isDeceived() == deceived);
             }
             CHECK.holds("12: found out by " + BASES[k] + " alone", !isProbable(number));
         }
-    }
-
-    private static boolean isDeceived(BigInteger number, int base) {
-        BigInteger less = number.subtract(ONE);
-        int twos = less.getLowestSetBit();
-        BigInteger left = big(base).modPow(less.shiftRight(twos), number);
-        boolean deceived = left.equals(ONE);
-        for (int k = 0; k < twos; k++) {
-            deceived |= left.equals(less);
-            left = left.multiply(left).mod(number);
-        }
-        return deceived;
     }
 
     /** A prime that is 1 more than a number with just so many twos, and an odd part from this one on. */

@@ -1,15 +1,10 @@
 import java.math.BigInteger;
 import java.security.GeneralSecurityException;
 import java.util.Arrays;
-import java.util.Random;
 
 /** Promises 24 to 27: sign, prove, salt, taste. */
 final class SigningTest {
     private static final Check CHECK = new Check();
-    private static final int[][] NAMES = {
-        {48, 49, 48, 13, 6, 9, 96, 134, 72, 1, 101, 3, 4, 2, 1, 5, 0, 4, 32},
-        {48, 45, 48, 13, 6, 9, 96, 134, 72, 1, 101, 3, 4, 2, 4, 5, 0, 4, 28}
-    };
     private static final int M = 0;
     private static final int SALT = 1;
     private static final int SIGNED = 2;
@@ -36,30 +31,15 @@ final class SigningTest {
         CHECK.end();
     }
 
-    private static byte[] random(long seed, int count) {
-        byte[] row = new byte[count];
-        new Random(seed).nextBytes(row);
-        return row;
-    }
-
-    private static int length(int hash) {
-        return hash == 0 ? 32 : 28;
-    }
-
-    private static byte[] block(int hash, int k, byte[] message) {
-        byte[] tail = Model.join(House.bytes(0), House.bytes(NAMES[hash]), Model.digest(hash, message));
-        return Model.join(House.bytes(0, 1), House.times(255, k - 2 - tail.length), tail);
-    }
-
     private static void signAndProve(int hash, int bits) throws GeneralSecurityException {
         Keys key = new Keys(bits, 65537, bits);
         Jdk jdk = new Jdk(key);
         for (int count : new int[] {0, 1, 64, 256}) {
-            byte[] message = random(count, count);
+            byte[] message = Pads.random(count, count);
             House h = new House().put(M, message);
             key.whole(h);
             key.open(h);
-            byte[] signed = key.lowered(block(hash, key.length(), message));
+            byte[] signed = key.lowered(Pads.signed(hash, key.length(), message));
             String name = hash + ", " + bits + " bits, " + count + " bytes";
             CHECK.holds("24: another signs so, " + name, Arrays.equals(signed, jdk.sign(hash, message)));
             CHECK.due("24: K, " + name, key.length(), h.seal.sign(0, hash, M, SIGNED));
@@ -72,7 +52,7 @@ final class SigningTest {
     }
 
     private static void signEdges(int hash) {
-        int least = 19 + length(hash) + 11;
+        int least = 19 + Pads.length(hash) + 11;
         for (int k = least - 1; k <= least + 1; k++) {
             Keys key = new Keys(8 * k - 3, 17, k);
             House h = new House().put(M, 1, 2, 3).put(SIGNED, 9);
@@ -84,7 +64,7 @@ final class SigningTest {
             CHECK.due("25: K of " + k, fits ? 1 : -6, h.seal.prove(0, hash, M, SIGNED));
             CHECK.due("25: open, K of " + k, fits ? 1 : -6, h.seal.prove(1, hash, M, SIGNED));
             if (fits) {
-                CHECK.holds("24: signed", h.has(SIGNED, key.lowered(block(hash, k, House.bytes(1, 2, 3)))));
+                CHECK.holds("24: signed", h.has(SIGNED, key.lowered(Pads.signed(hash, k, House.bytes(1, 2, 3)))));
             } else {
                 CHECK.holds("24: -6 changes nothing", h.has(SIGNED, House.bytes(9)));
             }
@@ -101,7 +81,7 @@ final class SigningTest {
     private static void proveRefused(int hash) {
         Keys key = new Keys(600, 17, 25);
         int k = key.length();
-        byte[] good = block(hash, k, House.bytes(1, 2, 3));
+        byte[] good = Pads.signed(hash, k, House.bytes(1, 2, 3));
         dueProved(key, hash, 1, "as it is", good);
         for (int place = 0; place < k; place += 3) {
             byte[] bad = good.clone();
@@ -112,7 +92,7 @@ final class SigningTest {
         bad[k - 1] ^= 1;
         dueProved(key, hash, 0, "the last byte", bad);
         // A block with less 255s and something behind the digest is another's way to forge.
-        byte[] tail = Arrays.copyOfRange(good, k - length(hash) - 20, k);
+        byte[] tail = Arrays.copyOfRange(good, k - Pads.length(hash) - 20, k);
         byte[] forged = Model.join(House.bytes(0, 1), House.times(255, k - 4 - tail.length), tail, House.bytes(7, 7));
         dueProved(key, hash, 0, "something behind", forged);
         byte[] signed = key.lowered(good);
@@ -127,42 +107,28 @@ final class SigningTest {
         do {
             message[0]++;
             message[1] += message[0] == 0 ? 1 : 0;
-            signed = key.lowered(block(hash, k, message));
+            signed = key.lowered(Pads.signed(hash, k, message));
         } while (signed[0] != 0);
         h.put(M, message).put(SIGNED, signed).put(KEPT, Arrays.copyOfRange(signed, 1, k));
         CHECK.due("25: with its 0 ahead", 1, h.seal.prove(0, hash, M, SIGNED));
         CHECK.due("25: without its 0 ahead", 0, h.seal.prove(0, hash, M, KEPT));
     }
 
-    /** The parts of a salted row before it is lowered, to be bent one by one. */
-    private static byte[] salted(int hash, int bits, byte[] message, byte[] salt) {
-        int e = (bits + 6) / 8;
-        byte[] u = Model.digest(hash, Model.join(new byte[8], Model.digest(hash, message), salt));
-        byte[] d = Model.join(new byte[e - length(hash) - 2 - salt.length], House.bytes(1), salt);
-        return sealed(hash, bits, d, u);
-    }
-
-    private static byte[] sealed(int hash, int bits, byte[] d, byte[] u) {
-        byte[] v = Model.xor(d, Model.mask(hash, u, d.length));
-        byte[] all = Model.join(v, u, House.bytes(188));
-        return House.sized(new BigInteger(1, all).mod(BigInteger.TWO.pow(bits - 1)), (bits + 7) / 8);
-    }
-
     private static void saltAndTaste(int hash, int bits) throws GeneralSecurityException {
         Keys key = new Keys(bits, 65537, bits + 7);
         Jdk jdk = new Jdk(key);
-        int most = (bits + 6) / 8 - length(hash) - 2;
+        int most = (bits + 6) / 8 - Pads.length(hash) - 2;
         for (int count : new int[] {0, 1, 20, most - 1, most}) {
             if (count > most) {
                 continue;
             }
-            byte[] message = random(count + 1, bits % 257);
-            byte[] salt = random(count + 2, count);
+            byte[] message = Pads.random(count + 1, bits % 257);
+            byte[] salt = Pads.random(count + 2, count);
             House h = new House().put(M, message).put(SALT, salt);
             key.whole(h);
             key.open(h);
             String name = hash + ", " + bits + " bits, a salt of " + count;
-            byte[] signed = key.lowered(salted(hash, bits, message, salt));
+            byte[] signed = key.lowered(Pads.salted(hash, bits, message, salt));
             CHECK.due("26: K, " + name, key.length(), h.seal.salt(0, hash, M, SALT, SIGNED));
             CHECK.holds("26: salted, " + name, h.has(SIGNED, signed));
             CHECK.holds("26: tasted by another, " + name, jdk.taste(hash, message, signed, count));
@@ -178,7 +144,7 @@ final class SigningTest {
     }
 
     private static void saltEdges(int hash) {
-        int least = length(hash) + 2;
+        int least = Pads.length(hash) + 2;
         for (int bits = 8 * least - 9; bits <= 8 * least + 11; bits++) {
             Keys key = new Keys(bits, 17, bits);
             House h = new House().put(M, 5).put(KEPT, 6);
@@ -186,12 +152,12 @@ final class SigningTest {
             key.open(h);
             int e = (bits + 6) / 8;
             for (int count = 0; count < 3; count++) {
-                h.put(SALT, random(count, count)).put(SIGNED, 6);
+                h.put(SALT, Pads.random(count, count)).put(SIGNED, 6);
                 boolean fits = e >= least + count;
                 String name = bits + " bits, a salt of " + count;
                 CHECK.due("26: " + name, fits ? key.length() : -6, h.seal.salt(0, hash, M, SALT, SIGNED));
                 CHECK.due("26: open first, " + name, -2, h.seal.salt(1, hash, M, SALT, KEPT));
-                byte[] want = fits ? key.lowered(salted(hash, bits, House.bytes(5), random(count, count)))
+                byte[] want = fits ? key.lowered(Pads.salted(hash, bits, House.bytes(5), Pads.random(count, count)))
                         : House.bytes(6);
                 CHECK.holds("26: the slot, " + name, h.has(SIGNED, want));
                 CHECK.due("27: " + name, fits ? 1 : 0, h.seal.taste(1, hash, M, SIGNED, count));
@@ -221,8 +187,8 @@ final class SigningTest {
         int k = key.length();
         int e = (bits + 6) / 8;
         byte[] message = {1, 2, 3};
-        byte[] salt = random(27, 5);
-        byte[] good = salted(hash, bits, message, salt);
+        byte[] salt = Pads.random(27, 5);
+        byte[] good = Pads.salted(hash, bits, message, salt);
         dueTasted(key, hash, 1, "as it is", good);
         for (int place = k - e + 1; place < k; place++) {
             byte[] bad = good.clone();
@@ -237,19 +203,19 @@ final class SigningTest {
             dueTasted(key, hash, 0, "a bit above B", House.sized(high, k));
         }
         byte[] u = Model.digest(hash, Model.join(new byte[8], Model.digest(hash, message), salt));
-        byte[] zeros = new byte[e - length(hash) - 7];
-        dueTasted(key, hash, 1, "by hand", sealed(hash, bits, Model.join(zeros, House.bytes(1), salt), u));
-        dueTasted(key, hash, 0, "a 2", sealed(hash, bits, Model.join(zeros, House.bytes(2), salt), u));
-        dueTasted(key, hash, 0, "a 0", sealed(hash, bits, Model.join(zeros, House.bytes(0), salt), u));
-        dueTasted(key, hash, 0, "a 129", sealed(hash, bits, Model.join(zeros, House.bytes(129), salt), u));
+        byte[] zeros = new byte[e - Pads.length(hash) - 7];
+        dueTasted(key, hash, 1, "by hand", Pads.sealed(hash, bits, Model.join(zeros, House.bytes(1), salt), u));
+        dueTasted(key, hash, 0, "a 2", Pads.sealed(hash, bits, Model.join(zeros, House.bytes(2), salt), u));
+        dueTasted(key, hash, 0, "a 0", Pads.sealed(hash, bits, Model.join(zeros, House.bytes(0), salt), u));
+        dueTasted(key, hash, 0, "a 129", Pads.sealed(hash, bits, Model.join(zeros, House.bytes(129), salt), u));
         zeros[zeros.length - 1] = 1;
-        dueTasted(key, hash, 0, "a 1 ahead", sealed(hash, bits, Model.join(zeros, House.bytes(1), salt), u));
+        dueTasted(key, hash, 0, "a 1 ahead", Pads.sealed(hash, bits, Model.join(zeros, House.bytes(1), salt), u));
         zeros[zeros.length - 1] = 0;
         zeros[1] = 1;
-        dueTasted(key, hash, 0, "a 1 far ahead", sealed(hash, bits, Model.join(zeros, House.bytes(1), salt), u));
+        dueTasted(key, hash, 0, "a 1 far ahead", Pads.sealed(hash, bits, Model.join(zeros, House.bytes(1), salt), u));
         byte[] seven = Model.digest(hash, Model.join(new byte[7], Model.digest(hash, message), salt));
         dueTasted(key, hash, 0, "seven 0s",
-                sealed(hash, bits, Model.join(new byte[zeros.length], House.bytes(1), salt), seven));
+                Pads.sealed(hash, bits, Model.join(new byte[zeros.length], House.bytes(1), salt), seven));
         tasteOthers(key, hash, key.lowered(good));
     }
 
@@ -269,7 +235,7 @@ final class SigningTest {
         do {
             salt[0]++;
             salt[1] += salt[0] == 0 ? 1 : 0;
-            signed = key.lowered(salted(hash, key.n.bitLength(), House.bytes(1, 2, 3), salt));
+            signed = key.lowered(Pads.salted(hash, key.n.bitLength(), House.bytes(1, 2, 3), salt));
         } while (signed[0] != 0);
         h.put(SIGNED, signed).put(KEPT, Arrays.copyOfRange(signed, 1, k));
         CHECK.due("27: with its 0 ahead", 1, h.seal.taste(0, hash, M, SIGNED, 5));
@@ -327,13 +293,13 @@ final class SigningTest {
 
     private static void ontoItself() {
         Keys key = new Keys(1024, 65537, 24);
-        byte[] row = random(24, 20);
+        byte[] row = Pads.random(24, 20);
         House h = new House().put(M, row).put(SALT, row);
         key.whole(h);
         CHECK.due("24: onto the message", 128, h.seal.sign(0, 0, M, M));
-        CHECK.holds("24: onto the message", h.has(M, key.lowered(block(0, 128, row))));
+        CHECK.holds("24: onto the message", h.has(M, key.lowered(Pads.signed(0, 128, row))));
         CHECK.due("26: all slots one", 128, h.seal.salt(0, 1, SALT, SALT, SALT));
-        CHECK.holds("26: all slots one", h.has(SALT, key.lowered(salted(1, 1024, row, row))));
+        CHECK.holds("26: all slots one", h.has(SALT, key.lowered(Pads.salted(1, 1024, row, row))));
         h.put(M, row);
         CHECK.due("27: of it", 1, h.seal.taste(0, 1, M, SALT, 20));
     }
