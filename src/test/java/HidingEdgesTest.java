@@ -8,6 +8,8 @@ final class HidingEdgesTest {
     private static final int LABEL = 1;
     private static final int SEED = 2;
     private static final int OUT = 3;
+    /** The slot of calls that come before the one that is looked at, lest it find all as new. */
+    private static final int BEFORE = 9;
     private static final byte[] KEPT = {0, 9};
     private static final byte[] NONE = {};
     /** Its n has 600 bits less 3: what is made with it has room for n once more in its 75 bytes. */
@@ -55,6 +57,8 @@ final class HidingEdgesTest {
             CHECK.due("the key", 0, open == 0 ? key.whole(h) : key.open(h));
             String name = "hash " + hash + ", K " + key.length() + ", a message of " + message.length + ", a label of "
                     + label.length + ", a seed of " + seed.length;
+            h.seal.hide(0, hash, BEFORE, SEED, SEED, BEFORE);
+            h.seal.mask(hash, SEED, 256, BEFORE);
             CHECK.due(name, want, h.seal.hide(0, hash, M, LABEL, SEED, OUT));
             byte[] left = want < 0 ? KEPT : key.raised(Pads.hidden(hash, key.length(), message, label, seed));
             CHECK.holds(name + ": what stands there", h.has(OUT, left));
@@ -272,6 +276,7 @@ final class HidingEdgesTest {
             House h = new House().put(M, message).put(SEED, filling).put(OUT, KEPT);
             CHECK.due("the key", 0, open == 0 ? key.whole(h) : key.open(h));
             String name = "K " + key.length() + ", a message of " + message.length + ", a filling of " + filling.length;
+            h.seal.mask(0, SEED, 256, BEFORE);
             CHECK.due(name, want, h.seal.fill(0, M, SEED, OUT));
             byte[] left = want < 0 ? KEPT : key.raised(filled(filling, message));
             CHECK.holds(name + ": what stands there", h.has(OUT, left));

@@ -65,9 +65,22 @@ final class NumberEdgesTest {
         return number.bitLength() < 100 ? number.toString() : "0x" + number.toString(16);
     }
 
+    /**
+     * A house that has reckoned with long numbers before, so that it is seen if a later call does not begin anew.
+     */
+    private static House used() {
+        House h = new House().put(0, TOP).put(1, LONELY).put(2, LAST_PRIME).put(3, 251);
+        for (int what = 0; what < 8; what++) {
+            h.seal.calc(what, 1, 2, 2, 4);
+        }
+        h.seal.calc(8, 0, 3, 2, 4);
+        h.seal.calc(3, 0, 1, 2, 4);
+        return h;
+    }
+
     /** A want below 0 is why not: what has been in the slot stays there then. */
     private static void due(int what, BigInteger a, BigInteger b, BigInteger c, BigInteger want) {
-        House h = new House().put(0, a).put(1, b).put(2, c).put(3, 0, 9);
+        House h = used().put(0, a).put(1, b).put(2, c).put(3, 0, 9);
         String name = what + " of " + brief(a) + ", " + brief(b) + ", " + brief(c);
         boolean refused = want.signum() < 0;
         long answer = refused ? want.intValue() : House.fewest(want).length;
@@ -250,6 +263,19 @@ final class NumberEdgesTest {
             due(8, a, THREE, TWO, a.mod(TWO));
         }
         due(8, big(3), TOP, power(1023), big(3).modPow(TOP, power(1023)));
+        Random random = new Random(8);
+        for (int bits : new int[] {1024, 1023, 1017, 1016, 1009, 1008, 1007, 513, 512, 57, 56, 29, 28, 27, 9, 8, 2}) {
+            BigInteger odd = new BigInteger(bits, random).setBit(bits - 1).setBit(0);
+            BigInteger even = odd.subtract(ONE);
+            for (BigInteger a : new BigInteger[] {TOP, TOP.subtract(ONE), new BigInteger(2048, random)}) {
+                BigInteger b = new BigInteger(200, random).setBit(199);
+                due(8, a, b, odd, a.modPow(b, odd));
+                due(8, a, b, even, a.modPow(b, even));
+            }
+            due(8, odd.subtract(ONE), TOP, odd, odd.subtract(ONE));
+            due(8, odd, TOP, odd, NIL);
+            due(8, odd.add(ONE), TOP, odd, ONE.mod(odd));
+        }
     }
 
     private static void powersOfNil() {
@@ -261,8 +287,12 @@ final class NumberEdgesTest {
         due(8, ONE, NIL, ONE, NIL);
         due(8, ONE, NIL, TWO, ONE);
         due(8, TWO, NIL, TWO, ONE);
-        due(8, NIL, TOP, HALF.subtract(ONE), NIL);
         due(8, NIL, NIL, NIL, big(-2));
+        for (BigInteger b : new BigInteger[] {ONE, TWO, THREE, big(4), big(5), big(6), power(2047), TOP}) {
+            due(8, NIL, b, TWO, NIL);
+            due(8, NIL, b, HALF.subtract(ONE), NIL);
+            due(8, power(1023), b, power(1023), NIL);
+        }
     }
 
     private static void byNil() {
@@ -488,22 +518,30 @@ final class NumberEdgesTest {
 
     private static void laterPowers() {
         CHECK.sentence("or one of w^(2 t), w^(4 t), .., w^(2^(s-1) t) leaves NUMBER - 1");
-        for (int twos : new int[] {2, 3, 4, 16, 27, 28, 29, 56, 100, 255}) {
-            BigInteger odd = ONE;
-            BigInteger prime;
-            do {
-                prime = odd.shiftLeft(twos).add(ONE);
-                odd = odd.add(TWO);
-            } while (!prime.isProbablePrime(60) || !isReachedLast(prime));
-            CHECK.due("the test's own, " + brief(prime), twos, new Powers(prime, 2).twos());
-            dueProbable(brief(prime) + " with " + twos + " twos", prime, true);
-            dueProbable(brief(prime) + " squared", prime.multiply(prime), false);
+        for (int twos : new int[] {2, 3, 4, 16, 27, 28, 29, 55, 56, 57, 100, 255}) {
+            for (BigInteger from : new BigInteger[] {ONE, LONELY.shiftRight(400).setBit(0), LONELY.shiftRight(255).setBit(0)}) {
+                BigInteger prime = primeWithTwos(twos, from);
+                CHECK.due("the test's own, " + brief(prime), twos, new Powers(prime, 2).twos());
+                dueProbable(brief(prime) + " with " + twos + " twos", prime, true);
+                dueProbable(brief(prime) + " squared", prime.multiply(prime), false);
+            }
         }
         // Each power of these is 1 in the end, but 1 comes without NUMBER - 1 before it.
         for (long number : new long[] {252601, 294409, 399001, 410041, 488881}) {
             CHECK.holds("the test's own, " + number, big(2).modPow(big(number - 1), big(number)).equals(ONE));
             dueProbable("" + number, big(number), false);
         }
+    }
+
+    /** A prime of which s is told, with an odd t from this one on, and NUMBER - 1 among the last of its powers. */
+    private static BigInteger primeWithTwos(int twos, BigInteger from) {
+        BigInteger odd = from;
+        BigInteger prime = odd.shiftLeft(twos).add(ONE);
+        while (!prime.isProbablePrime(60) || !isReachedLast(prime)) {
+            odd = odd.add(TWO);
+            prime = odd.shiftLeft(twos).add(ONE);
+        }
+        return prime;
     }
 
     /** Whether NUMBER - 1 comes for some base at the last of these powers and not before. */
@@ -518,13 +556,13 @@ final class NumberEdgesTest {
     }
 
     private static void dueNext(BigInteger from, BigInteger want) {
-        House h = new House().put(0, from).put(1, 0, 9);
+        House h = used().put(0, from).put(1, 0, 9);
         CHECK.due("behind " + brief(from), House.fewest(want).length, h.seal.next(0, 1));
         CHECK.holds("behind " + brief(from), h.has(1, want));
     }
 
     private static void dueNoNext(int want, BigInteger from) {
-        House h = new House().put(0, from).put(1, 0, 9);
+        House h = used().put(0, from).put(1, 0, 9);
         CHECK.due("behind " + brief(from), want, h.seal.next(0, 1));
         CHECK.holds("nothing changed", h.has(1, House.bytes(0, 9)));
     }
@@ -539,7 +577,7 @@ final class NumberEdgesTest {
             }
             dueNext(big(k), big(primes[above]));
         }
-        for (int bits = 8; bits < 512; bits += 28) {
+        for (int bits = 8; bits < 512; bits += 4) {
             BigInteger prime = power(bits).nextProbablePrime();
             dueNext(prime.subtract(TWO), prime);
             dueNext(prime.subtract(ONE), prime);

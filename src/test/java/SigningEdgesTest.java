@@ -8,6 +8,8 @@ final class SigningEdgesTest {
     private static final int SALT = 1;
     private static final int SIGNED = 2;
     private static final int OUT = 3;
+    /** The slot of calls that come before the one that is looked at, lest it find all as new. */
+    private static final int BEFORE = 9;
     private static final byte[] KEPT = {0, 9};
     private static final byte[] NONE = {};
     private static final byte[] MESSAGE = {1, 2, 3};
@@ -49,6 +51,7 @@ final class SigningEdgesTest {
         House h = new House().put(M, message).put(OUT, KEPT);
         key.whole(h);
         String name = "hash " + hash + ", K " + key.length() + ", a message of " + message.length;
+        h.seal.mask(hash, M, 256, BEFORE);
         CHECK.due(name, want, h.seal.sign(0, hash, M, OUT));
         byte[] left = want < 0 ? KEPT : key.lowered(Pads.signed(hash, key.length(), message));
         CHECK.holds(name + ": what stands there", h.has(OUT, left));
@@ -185,6 +188,8 @@ final class SigningEdgesTest {
         key.whole(h);
         int bits = key.n.bitLength();
         String name = "hash " + hash + ", " + bits + " bits, a salt of " + salt.length;
+        h.seal.salt(0, hash, M, BEFORE, BEFORE);
+        h.seal.mask(hash, M, 256, BEFORE);
         CHECK.due(name, want, h.seal.salt(0, hash, M, SALT, OUT));
         byte[] left = want < 0 ? KEPT : key.lowered(Pads.salted(hash, bits, message, salt));
         CHECK.holds(name + ": what stands there", h.has(OUT, left));
