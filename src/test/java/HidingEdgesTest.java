@@ -428,9 +428,8 @@ final class HidingEdgesTest {
     private static void emptiedEnd() {
         CHECK.sentence("8 or more BYTES that are not 0 | 0 | M; else -5.");
         dueEmptied(-5, "no 0", SHORT, SHORT.raised(Model.join(House.bytes(0, 2), Pads.filling(1, 18))));
-        dueEmptied(0, "a 0 at the end", SHORT, SHORT.raised(Model.join(House.bytes(0, 2), Pads.filling(1, 17), House.bytes(0))));
-        dueEmptied(1, "a 0 before the end", SHORT,
-                SHORT.raised(Model.join(House.bytes(0, 2), Pads.filling(1, 16), House.bytes(0, 0))));
+        dueEmptied(0, "a 0 at the end", SHORT, SHORT.raised(filled(Pads.filling(1, 17), NONE)));
+        dueEmptied(1, "a 0 before the end", SHORT, SHORT.raised(filled(Pads.filling(1, 16), House.bytes(0))));
         dueEmptied(9, "the longest message", SHORT, SHORT.raised(filled(Pads.filling(1, 8), random(1, 9))));
         for (int place = 0; place < 20; place++) {
             byte[] row = SHORT.raised(filled(Pads.filling(1, 8), random(1, 9)));

@@ -12,7 +12,7 @@ final class KeyEdgesTest {
     private static final BigInteger P = big(4294967291L);
     private static final BigInteger Q = big(4294967279L);
     private static final BigInteger N = P.multiply(Q);
-    /** The last prime of 64 bytes and the one before it. */
+    /** The last prime of 64 bytes. */
     private static final BigInteger LAST_PRIME = power(512).subtract(big(569));
     /** What deceives the twelve bases, and its divisors. */
     private static final BigInteger DECEIVER = new BigInteger("318665857834031151167461");
@@ -124,8 +124,8 @@ final class KeyEdgesTest {
         dueBoth(-2, ONE, power(1024).subtract(ONE), THREE);
         dueBoth(-1, ONE, power(1024), THREE);
         dueBoth(-1, ONE, power(1024).add(ONE), THREE);
-        BigInteger long1 = power(512).nextProbablePrime();
-        dueBoth(-1, long1, long1.nextProbablePrime(), THREE);
+        BigInteger longer = power(512).nextProbablePrime();
+        dueBoth(-1, longer, longer.nextProbablePrime(), THREE);
         dueBoth(-1, power(1024), power(1024).subtract(ONE), THREE);
         dueBoth(-1, power(1024), power(1024), THREE);
         dueBoth(-1, TOP, ONE, THREE);
@@ -142,24 +142,24 @@ final class KeyEdgesTest {
         }
         dueBoth(-2, ONE, power(60).nextProbablePrime(), THREE);
         dueBoth(-2, big(37 * 41), power(60).nextProbablePrime(), THREE);
-        BigInteger long1 = power(512).nextProbablePrime();
-        CHECK.holds("the test's own", long1.isProbablePrime(60) && long1.bitLength() == 513);
-        dueBoth(-2, long1, P, THREE);
-        dueBoth(-2, long1, LAST_PRIME, THREE);
+        BigInteger longer = power(512).nextProbablePrime();
+        CHECK.holds("the test's own", longer.isProbablePrime(60) && longer.bitLength() == 513);
+        dueBoth(-2, longer, P, THREE);
+        dueBoth(-2, longer, LAST_PRIME, THREE);
         dueBoth(0, LAST_PRIME, P, exponentOf(LAST_PRIME, P));
         dueBoth(0, DECEIVER, Q, exponentOf(DECEIVER, Q));
     }
 
     private static void isTwo() {
         CHECK.sentence("-2 p or q is not PROBABLE, or is 2");
-        BigInteger long1 = power(60).nextProbablePrime();
-        dueBoth(-2, ONE, long1, THREE);
-        dueBoth(-2, TWO, long1, THREE);
-        dueBoth(0, THREE, long1, exponentOf(THREE, long1));
-        dueBoth(-2, big(4), long1, THREE);
-        dueBoth(0, big(5), long1, exponentOf(big(5), long1));
-        dueBoth(0, big(37), long1, exponentOf(big(37), long1));
-        dueBoth(0, big(41), long1, exponentOf(big(41), long1));
+        BigInteger longer = power(60).nextProbablePrime();
+        dueBoth(-2, ONE, longer, THREE);
+        dueBoth(-2, TWO, longer, THREE);
+        dueBoth(0, THREE, longer, exponentOf(THREE, longer));
+        dueBoth(-2, big(4), longer, THREE);
+        dueBoth(0, big(5), longer, exponentOf(big(5), longer));
+        dueBoth(0, big(37), longer, exponentOf(big(37), longer));
+        dueBoth(0, big(41), longer, exponentOf(big(41), longer));
     }
 
     private static void oneAndTheSame() {

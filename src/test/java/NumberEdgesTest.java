@@ -518,8 +518,9 @@ final class NumberEdgesTest {
 
     private static void laterPowers() {
         CHECK.sentence("or one of w^(2 t), w^(4 t), .., w^(2^(s-1) t) leaves NUMBER - 1");
+        BigInteger[] odds = {ONE, LONELY.shiftRight(400).setBit(0), LONELY.shiftRight(255).setBit(0)};
         for (int twos : new int[] {2, 3, 4, 16, 27, 28, 29, 55, 56, 57, 100, 255}) {
-            for (BigInteger from : new BigInteger[] {ONE, LONELY.shiftRight(400).setBit(0), LONELY.shiftRight(255).setBit(0)}) {
+            for (BigInteger from : odds) {
                 BigInteger prime = primeWithTwos(twos, from);
                 CHECK.due("the test's own, " + brief(prime), twos, new Powers(prime, 2).twos());
                 dueProbable(brief(prime) + " with " + twos + " twos", prime, true);
